@@ -1868,10 +1868,10 @@ public final class DeafBells {
 
         int goodMove(int what) {
             int all = 0;
-            for (int r = 0; r < tower.ringers; r++) {
+            for (int r = 0; r < tower.ringers && r < RINGERS; r++) {
                 all ^= nimberOf(tower.tired[r]);
             }
-            for (int r = 0; r < tower.ringers && all != 0; r++) {
+            for (int r = 0; r < tower.ringers && r < RINGERS && all != 0; r++) {
                 int many = loosedWell(tower.tired[r], all);
                 if (many != 0) {
                     return what == 0 ? r : many;

@@ -261,6 +261,18 @@ final class PastTest {
         x.undo();
         Check.due("lines", x.look(6), 1);
         Check.due("what", x.book(0, 1), 0);
+
+        DeafBells y = three();
+        y.act(0, 0);
+        y.image(true);
+        y.undo();
+        y.pull(2);
+        Check.due("what", y.book(0, 1), 0);
+        y.image(false);
+        int[] fed = {0, 1, 0, 50};
+        for (int what = 0; what < 4; what++) {
+            Check.due("THE BOOK as it was", y.book(0, what), fed[what]);
+        }
     }
 
     private static void imageTwice() {

@@ -77,6 +77,13 @@ final class TextTest {
         Check.refused(x, 0, "Pull 1;", 1, 0);
         Check.refused(x, 0, "pul 1;", 1, 0);
         Check.refused(x, 0, " pullX 1;", 1, 1);
+        Check.refused(x, 0, "pullA 1;", 1, 0);
+        Check.refused(x, 0, "pullZ 1;", 1, 0);
+        Check.refused(x, 0, "pull@1;", 1, 4);
+        Check.refused(x, 0, "pull[1;", 1, 4);
+        Check.refused(x, 0, "pull`1;", 1, 4);
+        Check.refused(x, 0, "pull{1;", 1, 4);
+        Check.refused(x, 0, "pull\u00e91;", 1, 4);
         Check.refused(x, 0, "pull\t1;", 1, 4);
         Check.refused(x, 0, "pull 1\r;", 1, 6);
         Check.refused(x, 0, "pull 1.;", 1, 6);
@@ -362,5 +369,11 @@ final class TextTest {
             Check.refused(x, k, all + lines[k].substring(0, lines[k].indexOf(' ')), 3, all.length());
             Check.refused(x, k, "$" + all + lines[k], 1, 0);
         }
+        Check.tell(x, 0, "hard 1;".repeat(15) + "pull 7;", 16);
+        Check.due("of the sixteenth line", x.of(0, 7), 7);
+        Check.tell(x, 0, "lost 1" + "+1".repeat(196) + ";", 1);
+        Check.due("of a whole TAPE", x.lost(), 197);
+        Check.tell(x, 0, "lost 7 when 1=1" + " or 1=1".repeat(54) + ";", 1);
+        Check.due("of a whole TAPE", x.lost(), 7);
     }
 }
