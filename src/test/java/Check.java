@@ -1,9 +1,15 @@
+import java.io.IOException;
 import java.nio.charset.StandardCharsets;
+import java.nio.file.Files;
+import java.nio.file.Path;
 
 /** Counts the answers that are not as due, and tells texts to a tower. */
 final class Check {
+    private static final Path DOCUMENT = Path.of("../shared/DOC.md");
     private static int wrong = 0;
     private static int asked = 0;
+    private static String sentence = "";
+    private static String document = null;
 
     private Check() {
     }
@@ -13,9 +19,28 @@ final class Check {
         if (got != want) {
             wrong++;
             if (wrong <= 50) {
-                System.out.println(call + " answered " + got + ", due is " + want);
+                System.out.println(sentence + call + " answered " + got + ", due is " + want);
             }
         }
+    }
+
+    /** The answers that follow test these words of the document, which must stand in it. */
+    static void sentence(String words) {
+        sentence = "";
+        due("the document says: " + words, document().isEmpty() || document().contains(words), true);
+        sentence = "\"" + words + "\": ";
+    }
+
+    // Empty where the document is not at hand: the answers are due all the same.
+    private static String document() {
+        if (document == null) {
+            try {
+                document = Files.exists(DOCUMENT) ? Files.readString(DOCUMENT).replaceAll("\\s+", " ") : "";
+            } catch (IOException e) {
+                document = "";
+            }
+        }
+        return document;
     }
 
     static void due(String call, boolean got, boolean want) {
