@@ -394,6 +394,18 @@ final class PastEdgeTest {
 
     private static void imageMoreThanOnce() {
         Check.sentence("gone back to it may be more than once");
+        DeafBells b = four();
+        b.act(0, 1);
+        b.image(true);
+        b.undo();
+        b.pull(0);
+        b.hours(3);
+        b.image(false);
+        int[] fed = {0, 1, 1, 20};
+        for (int what = 0; what < 4; what++) {
+            Check.due("THE BOOK has the line that was written over", b.book(0, what), fed[what]);
+        }
+        Check.due("and no other", b.look(6), 1);
         DeafBells x = four();
         x.image(true);
         String was = moved(x);

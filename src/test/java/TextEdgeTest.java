@@ -26,6 +26,10 @@ final class TextEdgeTest {
         lettersTogether();
         digitsTogether();
         signsAndBlanks();
+        lawLines();
+        lawTruths();
+        lawNumbers();
+        otherLines();
         partByNought();
         ringersThatAreNot();
         daysBounds();
@@ -38,6 +42,7 @@ final class TextEdgeTest {
         heldWorth();
         wraps();
         towardsNought();
+        longLawsAgain();
         lostRestNought();
         feltOfTheHour();
         Check.finish("TextEdgeTest");
@@ -242,6 +247,10 @@ final class TextEdgeTest {
     private static void lettersTogether() {
         Check.sentence("letters as many as stand together are KEYWORDS (those told here for that text) or none");
         DeafBells x = ten();
+        for (int sign = 'A'; sign <= 'z'; sign++) {
+            boolean letter = Character.isLetter(sign);
+            Check.refused(x, 0, "pull" + (char) sign + "1;", 1, letter ? 0 : 4);
+        }
         Check.tell(x, 0, "pull1when1=1and2=2or3=3;", 1);
         Check.refused(x, 0, "pull 1 whennot 1=1;", 1, 7);
         Check.refused(x, 0, "pullpull 1;", 1, 0);
@@ -309,6 +318,113 @@ final class TextEdgeTest {
         }
     }
 
+    private static void lawLines() {
+        Check.sentence("0 THE LAW = {(pull | hard | lost) E [when B] ;}.");
+        DeafBells x = ten();
+        for (String word : new String[] {"pull", "hard", "lost"}) {
+            Check.tell(x, 0, word + " 1;", 1);
+            Check.tell(x, 0, word + " 1 when 1 = 1;", 1);
+            Check.refused(x, 0, word + ";", 1, 4);
+            Check.refused(x, 0, word + " 1 when;", 1, 11);
+            Check.refused(x, 0, word + " 1 when 1 = 1 when 1 = 1;", 1, 18);
+            Check.refused(x, 0, word + " 1;;", 1, 7);
+            Check.refused(x, 0, word + " when 1 = 1;", 1, 5);
+            Check.refused(x, 0, word + " 1 " + word + " 1;", 1, 7);
+        }
+    }
+
+    private static void lawTruths() {
+        Check.sentence("B = A {or A}. A = C {and C}. C = E (< | = | >) E | not C | ( B ).");
+        DeafBells x = ten();
+        String[] many = {"1=1", "1=1 or 1=1", "1=1 and 1=1", "not 1=1", "(1=1)", "not(1=1 or 1=1)and not not(1=1)", "1=1 or 1=1 and 1=1 or 1=1"};
+        for (String b : many) {
+            Check.tell(x, 0, "lost 1 when " + b + ";", 1);
+        }
+        so(x, "1=1 or 1=1 and 1=2", true);
+        so(x, "1=2 and 1=1 or 1=1", true);
+        so(x, "1=2 and (1=1 or 1=1)", false);
+        so(x, "not 1=2 or 1=1", true);
+        so(x, "not 1=1 or 1=1", true);
+        so(x, "not 1=2 and 1=2", false);
+        so(x, "1<1 or 1>1", false);
+        so(x, "1<2 and 2>1 and 2=2", true);
+        so(x, "not 1<2 or not 2>1 or not 2=2", false);
+        so(x, "not 2<2 and not 2>2 and not 2=1", true);
+        so(x, "1=2 or (1=1 and not(1=2 or 1=2) and 1=1)", true);
+        Check.refused(x, 0, "lost 1 when 1;", 1, 13);
+        Check.refused(x, 0, "lost 1 when (1);", 1, 14);
+        Check.refused(x, 0, "lost 1 when ();", 1, 13);
+        Check.refused(x, 0, "lost 1 when 1=1 or;", 1, 18);
+        Check.refused(x, 0, "lost 1 when and 1=1;", 1, 12);
+        Check.refused(x, 0, "lost 1 when 1=1=1;", 1, 15);
+        Check.refused(x, 0, "lost 1 when 1==1;", 1, 14);
+        Check.refused(x, 0, "lost 1 when (1=1) = 1;", 1, 18);
+        Check.refused(x, 0, "lost 1 when 1=1 not 1=1;", 1, 16);
+        Check.refused(x, 0, "lost 1 when (1=1;", 1, 16);
+        Check.refused(x, 0, "lost 1 when 1=1);", 1, 15);
+        Check.refused(x, 0, "lost 1 when not;", 1, 15);
+    }
+
+    private static void lawNumbers() {
+        Check.sentence("E = T {(+ | -) T}. T = U {* U | / NUMBER}. U = NUMBER | feel | arm | hunger | tired | bell | heavy | sway | folk | draught | hour | felt.");
+        DeafBells x = ten();
+        String[] sums = {"9-4-3", "9-4+3", "2+3*4", "2*3+4", "20/3*3", "20*3/7", "100/7/3", "50-20/3*2-1", "1*2*3*4/5"};
+        int[] worth = {2, 8, 14, 10, 18, 8, 4, 37, 4};
+        for (int i = 0; i < sums.length; i++) {
+            Check.tell(x, 0, "lost " + sums[i] + ";", 1);
+            Check.due(sums[i], x.lost(), worth[i]);
+        }
+        Check.refused(x, 0, "lost 1 / feel;", 1, 9);
+        Check.refused(x, 0, "lost (1);", 1, 5);
+        Check.refused(x, 0, "lost -1;", 1, 5);
+        Check.refused(x, 0, "lost 1+;", 1, 7);
+        Check.refused(x, 0, "lost 1+-1;", 1, 7);
+        Check.refused(x, 0, "lost 1*;", 1, 7);
+        Check.refused(x, 0, "lost 1/;", 1, 7);
+        Check.refused(x, 0, "lost 1/2/;", 1, 9);
+        Check.refused(x, 0, "lost *1;", 1, 5);
+        Check.refused(x, 0, "lost feel arm;", 1, 10);
+        Check.refused(x, 0, "lost 1=1;", 1, 6);
+        Check.refused(x, 0, "lost not 1;", 1, 5);
+        Check.sentence("feel, arm, hunger, tired; bell, heavy: of his BELL; sway; folk; draught");
+        DeafBells y = new DeafBells();
+        y.ringer(0, 0, 0);
+        y.ringer(6, 1, 2);
+        int[][] set = {{5, 1, 3}, {6, 1, 4}, {0, 6, 5}, {0, 0, 77}, {0, 1, 78}, {3, 0, 700}, {1, 0, 8}, {2, 0, 9}, {5, 0, 50}, {6, 0, 51}};
+        for (int[] s : set) {
+            y.set(s[0], s[1], s[2]);
+        }
+        String[] words = {"feel", "arm", "hunger", "tired", "bell", "heavy", "sway", "folk", "draught", "hour", "felt"};
+        int[] want = {1, 2, 3, 4, 6, 5, 700, 8, 9, 0, 0};
+        for (int i = 0; i < words.length; i++) {
+            Check.tell(y, 0, "pull " + words[i] + "; hard 1 when " + words[i] + " = " + want[i] + "; hard 2;", 3);
+            Check.due("pull by " + words[i], y.of(1, 7), want[i]);
+            Check.due("hard by " + words[i], y.of(1, 8), 1);
+        }
+    }
+
+    private static void otherLines() {
+        Check.sentence("1 ROPES = {ringer RINGER feels RINGER ;}");
+        DeafBells x = ten();
+        Check.tell(x, 1, "ringer 0 feels 1;ringer 1 feels 0;ringer 0 feels 1;", 3);
+        Check.refused(x, 1, "ringer 0 feels 1 2;", 1, 17);
+        Check.refused(x, 1, "ringer 0 feels;", 1, 14);
+        Check.refused(x, 1, "ringer 0;", 1, 8);
+        Check.refused(x, 1, "ringer feels 1;", 1, 7);
+        Check.refused(x, 1, "0 feels 1;", 1, 0);
+        Check.sentence("2 DAYS = {at HOUR (wedding | fire | market | death | christening | draught) N ;}");
+        Check.refused(x, 2, "at 0;", 1, 4);
+        Check.refused(x, 2, "at 0 wedding;", 1, 12);
+        Check.refused(x, 2, "at 0 wedding fire 1;", 1, 13);
+        Check.refused(x, 2, "at wedding 1;", 1, 3);
+        Check.refused(x, 2, "at 0 wedding 1 1;", 1, 15);
+        Check.sentence("3 CHANGES = {swap PLACE {PLACE} ;}");
+        Check.refused(x, 3, "swap;", 1, 4);
+        Check.refused(x, 3, "swap 0 swap 1;", 1, 7);
+        Check.refused(x, 3, "swap 0;2;", 1, 7);
+        Check.refused(x, 3, "swap 0 2 4 6", 1, 12);
+    }
+
     private static void partByNought() {
         Check.sentence("2 (at the NUMBER) a part by 0");
         DeafBells x = ten();
@@ -316,6 +432,8 @@ final class TextEdgeTest {
             Check.refused(x, 0, "lost 1 / " + nought + ";", 2, 9);
             Check.refused(x, 0, "lost 1 / 1 / " + nought + ";", 2, 13);
             Check.refused(x, 0, "lost 1 when 1 < 2 / " + nought + ";", 2, 20);
+            Check.refused(x, 0, "lost 1 when 1 / " + nought + " < 2;", 2, 16);
+            Check.refused(x, 0, "lost 1 / " + nought, 2, 9);
         }
         Check.tell(x, 0, "lost 7 / 1;", 1);
         Check.due("by 1", x.lost(), 7);
@@ -349,7 +467,7 @@ final class TextEdgeTest {
     }
 
     private static void daysBounds() {
-        Check.sentence("(HOUR of a day 0 .. 23; N 0 .. 99, draught 0 .. 9.)");
+        Check.sentence("one beyond its bounds");
         DeafBells x = new DeafBells();
         for (String what : new String[] {"wedding", "fire", "market", "death", "christening", "draught"}) {
             int most = what.equals("draught") ? 9 : 99;
@@ -379,6 +497,7 @@ final class TextEdgeTest {
                 }
             }
         }
+        Check.sentence("a PLACE again, or beside one of its line");
         for (int p : new int[] {7, 8, 31, 32, 33, 64, 100, 9999}) {
             Check.refused(x, 3, "swap " + p + ";", 2, 5);
             Check.refused(x, 3, "swap 0 " + p + ";", 2, 7);
@@ -407,6 +526,7 @@ final class TextEdgeTest {
             Check.refused(x, k, lines[k].repeat(18), 3, at);
             Check.due("the sixteen stay", x.look(8 + k), 16);
         }
+        Check.sentence("16 lines of each at most.");
         DeafBells y = ten();
         Check.refused(y, 0, "lost 1;".repeat(5) + "pull 1;".repeat(6) + "hard 1;".repeat(6), 3, 112);
     }
@@ -553,6 +673,20 @@ final class TextEdgeTest {
         so(x, "0/2 = 0", true);
     }
 
+    private static void longLawsAgain() {
+        Check.sentence("is TEXT k: how many lines");
+        DeafBells x = ten();
+        for (int i = 1; i <= 9; i++) {
+            Check.tell(x, 0, "pull " + i + " when " + "1=1 and ".repeat(40) + "1=1;", 1);
+            Check.due("pull of the latest", x.of(0, 7), i);
+        }
+        Check.tell(x, 0, "lost " + "1+".repeat(196) + "1;", 1);
+        Check.due("the longest", x.lost(), 197);
+        Check.tell(x, 0, "pull 5 when not not not 1=2;", 1);
+        Check.tell(x, 0, "pull 6 when 1=1;", 1);
+        Check.due("nothing is left of the former", x.of(0, 7), 6);
+    }
+
     private static void lostRestNought() {
         Check.sentence("lost: sway, folk, draught, hour; the rest 0.");
         DeafBells x = new DeafBells();
@@ -565,12 +699,16 @@ final class TextEdgeTest {
             Check.tell(x, 0, "lost 5 + " + word + ";", 1);
             Check.due("lost by " + word, x.lost(), 5);
             so(x, word + " = 0", true);
+            x.set(3, 0, 100);
+            Check.tell(x, 0, "pull 0; lost 5 + " + word + ";", 2);
+            x.hours(1);
+            Check.due("SWAY lost by " + word, x.look(4), 95);
         }
         x.set(1, 0, 3);
         x.set(2, 0, 4);
         x.set(3, 0, 5);
         Check.tell(x, 0, "lost sway * 1000 + folk * 100 + draught * 10 + hour;", 1);
-        Check.due("lost", x.lost(), 5340);
+        Check.due("lost, at hour 7", x.lost(), 5347);
     }
 
     private static void feltOfTheHour() {

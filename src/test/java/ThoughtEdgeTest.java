@@ -30,6 +30,8 @@ final class ThoughtEdgeTest {
         opinions();
         turns();
         game();
+        gameOfMany();
+        oneThoughtBehindAnother();
         Check.finish("ThoughtEdgeTest");
     }
 
@@ -115,6 +117,8 @@ final class ThoughtEdgeTest {
 
     private static void rowEnds() {
         Check.sentence("ROW i (0 .. 999): the bell at a place then");
+        DeafBells first = changes("swap 0;swap 1;", 2);
+        Check.due("TRUE asked first of all", first.peal(3, 1), 6);
         DeafBells x = changes("swap 0;swap 1;", 2);
         // six rows round: 999 is the third of them
         int[] third = {2, 1, 0};
@@ -575,15 +579,36 @@ final class ThoughtEdgeTest {
         y.opinion(9, 9);
         Check.due("he alone decides", y.peals(19), 512);
         Check.due("SWINGS", y.peals(1), 512);
+        y.opinion(8, -8);
+        Check.due("against -8 still", y.peals(19), 512);
+        y.opinion(7, -1);
+        Check.due("against -9 not", y.peals(19), 384);
+        y.opinion(8, 1);
+        Check.due("{7 9}, {9}, {7 8 9}, not {8 9}", y.peals(19), 384);
+        for (int r = 0; r < 10; r++) {
+            y.opinion(r, 9);
+        }
+        Check.due("all but the empty one", y.peals(1), 1023);
+        Check.due("he alone", y.peals(10), 1);
+        Check.due("the sum", y.peals(0), 90);
+        for (int r = 1; r < 10; r++) {
+            y.opinion(r, -9);
+        }
+        Check.due("the sum", y.peals(0), -72);
+        Check.due("{0} alone", y.peals(1), 1);
+        Check.due("{0} alone", y.peals(10), 1);
+        Check.due("never", y.peals(19), 0);
     }
 
     private static void game() {
         Check.sentence("from TIRED of RINGERS two by turns loose 1, or half of one's upwards; who looses the last one of all wins: the RINGER (of several the least), how many (the fewest) who begins well looses");
-        boolean[] wins = new boolean[99];
+        boolean[] wins = new boolean[100];
         DeafBells x = with(1);
         Check.due("none is left: who begins loses", x.game(0), NONE);
-        for (int h = 1; h <= 98; h++) {
-            x.set(6, 0, h);
+        for (int h = 1; h <= 99; h++) {
+            // 99 can't be told, but pulled to
+            x.set(6, 0, Math.min(98, h));
+            Check.due("pulled to 99", h < 99 || x.pull(0) == 1, true);
             int half = h / 2 + h % 2;
             wins[h] = !wins[h - 1] || !wins[h - half];
             int many = !wins[h] ? NONE : !wins[h - 1] ? 1 : half;
@@ -604,5 +629,79 @@ final class ThoughtEdgeTest {
         Check.due("two alike and one", y.game(1), 1);
         y.act(2, 9);
         Check.due("those asleep too", y.game(1), 1);
+    }
+
+    // Whether who begins wins, by trying all.
+    private static boolean wins(int[] tired) {
+        for (int r = 0; r < tired.length; r++) {
+            for (int many : new int[] {1, tired[r] - tired[r] / 2}) {
+                if (tired[r] > 0 && !wins(less(tired, r, many))) {
+                    return true;
+                }
+            }
+        }
+        return false;
+    }
+
+    private static int[] less(int[] tired, int r, int many) {
+        int[] left = tired.clone();
+        left[r] -= many;
+        return left;
+    }
+
+    private static void gameOfMany() {
+        Check.sentence("NONE if who begins loses");
+        for (int a = 0; a <= 7; a++) {
+            for (int b = 0; b <= 7; b++) {
+                for (int c = 0; c <= 3; c++) {
+                    int[] tired = {a, b, c};
+                    DeafBells x = with(3);
+                    int ringer = NONE;
+                    int many = NONE;
+                    for (int r = 2; r >= 0; r--) {
+                        x.set(6, r, tired[r]);
+                        int half = tired[r] - tired[r] / 2;
+                        boolean one = tired[r] > 0 && !wins(less(tired, r, 1));
+                        boolean byHalf = tired[r] > 0 && !wins(less(tired, r, half));
+                        ringer = one || byHalf ? r : ringer;
+                        many = one ? 1 : byHalf ? half : many;
+                    }
+                    Check.due("RINGER of " + a + ", " + b + ", " + c, x.game(0), ringer);
+                    Check.due("how many of " + a + ", " + b + ", " + c, x.game(1), many);
+                }
+            }
+        }
+    }
+
+    private static int thought(DeafBells x, int i) {
+        switch (i / 4) {
+            case 0: return x.peal(i % 4 + 2, 0);
+            case 1: return x.peal(i % 4 + 2, 1);
+            case 2: return x.row(4, 3, i % 4);
+            case 3: return x.meant(7, i % 4);
+            case 4: return x.together(i % 4 - 1);
+            case 5: return x.holds(i % 4 == 0 ? 0 : 9 + i % 4);
+            case 6: return x.waves(0, i % 4 + 1, 1);
+            case 7: return x.bears(60, i % 4);
+            case 8: return x.best(i % 4, 1);
+            case 9: return x.heard(i % 4, 0);
+            case 10: return x.heard(1, i % 4);
+            case 11: return x.feeds(i % 4 == 0 ? 0 : 9 + i % 4);
+            case 12: return x.casts(i % 4);
+            case 13: return x.peals(i % 4 == 3 ? 12 : i % 4);
+            case 14: return x.game(i % 4);
+            default: return x.goes(20, i % 4);
+        }
+    }
+
+    private static void oneThoughtBehindAnother() {
+        Check.sentence("IN THOUGHT (nothing of it stays");
+        DeafBells x = Scene.full();
+        DeafBells y = Scene.full();
+        for (int i = 0; i < 64; i++) {
+            int want = thought(Scene.full(), i);
+            Check.due("thought " + i + " behind those before", thought(x, i), want);
+            Check.due("thought " + (63 - i) + " behind those after", thought(y, 63 - i), thought(Scene.full(), 63 - i));
+        }
     }
 }

@@ -9,6 +9,7 @@ final class TowerEdgeTest {
         atFirst();
         state();
         draws();
+        setToldAlone();
         quotients();
         tenRingers();
         pullStrokesAndSway();
@@ -115,6 +116,43 @@ final class TowerEdgeTest {
         int pulled = x.hours(1);
         Check.due("STATE behind " + state, x.look(7), next);
         return pulled;
+    }
+
+    private static void setToldAlone() {
+        Check.sentence("What 0 HEAVY of BELL who, 1 FOLK, 2 DRAUGHT, 3 SWAY (who not asked), 4 BELL, 5 HUNGER, 6 TIRED (0 .. 98) of RINGER who");
+        int[][] told = {{0, 1, 99}, {1, 1, 99}, {2, 1, 9}, {3, 1, 9999}, {4, 1, 7}, {5, 1, 99}, {6, 1, 98}};
+        for (int[] t : told) {
+            DeafBells x = new DeafBells();
+            for (int r = 0; r < 3; r++) {
+                x.ringer(0, 0, 0);
+            }
+            Check.due("set(" + t[0] + ", ..)", x.set(t[0], t[1], t[2]), true);
+            for (int b = 0; b < 8; b++) {
+                Check.due("HEAVY of " + b, x.bell(b, 0), t[0] == 0 && b == 1 ? 99 : 1);
+            }
+            for (int what = 1; what <= 3; what++) {
+                Check.due("look(" + (what + 1) + ")", x.look(what + 1), t[0] == what ? t[2] : 0);
+            }
+            for (int r = 0; r < 3; r++) {
+                Check.due("BELL of " + r, x.of(r, 0), t[0] == 4 && r == 1 ? 7 : 0);
+                Check.due("HUNGER of " + r, x.of(r, 3), t[0] == 5 && r == 1 ? 99 : 0);
+                Check.due("TIRED of " + r, x.of(r, 4), t[0] == 6 && r == 1 ? 98 : 0);
+                Check.due("AWAKE of " + r, x.of(r, 5), 1);
+            }
+        }
+        Check.sentence("By hand: to PULL, to FEED, to WAKE, to let SLEEP; BELLS are cast: HEAVY.");
+        DeafBells y = one(9);
+        y.pull(0);
+        y.set(0, 0, 99);
+        y.set(4, 0, 7);
+        Check.due("SWAY as it was", y.look(4), 4);
+        Check.due("STROKES stay with the BELL", y.bell(0, 1), 4);
+        y.pull(0);
+        Check.due("STROKES of the other", y.bell(7, 1), 4);
+        Check.due("SWAY by the other", y.look(4), 8);
+        Check.due("STROKES stay", y.bell(0, 1), 4);
+        Check.due("STATE is not drawn by hand", y.look(7), 0);
+        Check.due("HOUR goes not by hand", y.look(1), 0);
     }
 
     private static void quotients() {
@@ -254,6 +292,17 @@ final class TowerEdgeTest {
         Check.due("held at each line, above", folkBehind(90, "at 0 wedding 20; at 0 fire 99;", 2), 0);
         Check.due("held at each line, below", folkBehind(5, "at 0 death 20; at 0 market 8;", 2), 8);
         Check.due("line by line", folkBehind(5, "at 0 christening 9; at 0 wedding 0;", 2), 9);
+        for (String what : new String[] {"wedding", "market", "fire", "death", "christening", "draught"}) {
+            DeafBells one = new DeafBells();
+            Check.tell(one, 2, "at 0 " + what + " 2;", 1);
+            one.set(1, 0, 9);
+            one.set(2, 0, 5);
+            one.hours(1);
+            boolean more = what.equals("wedding") || what.equals("market");
+            boolean less = what.equals("fire") || what.equals("death");
+            Check.due("FOLK by " + what, one.look(2), more ? 10 : less ? 7 : what.equals("draught") ? 9 : 2);
+            Check.due("DRAUGHT by " + what, one.look(3), what.equals("draught") ? 2 : 5);
+        }
         DeafBells x = new DeafBells();
         Check.tell(x, 2, "at 0 draught 9; at 1 draught 0; at 2 draught 4; at 2 draught 5;", 4);
         for (int want : new int[] {9, 0, 5}) {
