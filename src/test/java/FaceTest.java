@@ -47,6 +47,17 @@ final class FaceTest {
         for (Method m : DeafBells.class.getDeclaredMethods()) {
             Check.due(m.getName() + " is private and has a public one's name", Modifier.isPrivate(m.getModifiers()) && names.contains(m.getName()), false);
         }
+        for (Class<?> inside : DeafBells.class.getDeclaredClasses()) {
+            Check.due(inside.getName() + " is static", Modifier.isStatic(inside.getModifiers()), true);
+            Check.due(inside.getName() + " is open", Modifier.isPublic(inside.getModifiers()) || Modifier.isProtected(inside.getModifiers()), false);
+            for (Method m : inside.getDeclaredMethods()) {
+                Check.due(inside.getName() + "." + m.getName() + " has a public one's name", names.contains(m.getName()), false);
+                Check.due(inside.getName() + "." + m.getName() + " takes seven at most", m.getParameterCount() <= 7, true);
+            }
+            for (Field f : inside.getDeclaredFields()) {
+                Check.due(inside.getName() + "." + f.getName() + " is static and not final", Modifier.isStatic(f.getModifiers()) && !Modifier.isFinal(f.getModifiers()), false);
+            }
+        }
         for (Field f : DeafBells.class.getDeclaredFields()) {
             Check.due(f.getName() + " is open", !Modifier.isPrivate(f.getModifiers()), f.getName().equals("NONE"));
         }

@@ -401,6 +401,12 @@ final class TextEdgeTest {
             Check.due("pull by " + words[i], y.of(1, 7), want[i]);
             Check.due("hard by " + words[i], y.of(1, 8), 1);
         }
+        Check.tell(y, 0, "pull bell * 100 + heavy;", 1);
+        for (int b = 0; b < 8; b++) {
+            y.set(0, b, 10 + b);
+            y.set(4, 1, b);
+            Check.due("pull by BELL " + b, y.of(1, 7), 100 * b + 10 + b);
+        }
     }
 
     private static void otherLines() {

@@ -467,11 +467,13 @@ final class ThoughtEdgeTest {
         Check.due("2 and 9", x.heard(0, 2), 4 + 512);
         x.stranger(0, 8);
         Check.due("another way", x.heard(0, 2), 0);
-        DeafBells y = new DeafBells();
-        for (int a = 0; a < 9; a++) {
-            y.stranger(9, a);
+        for (int middle = 0; middle < 10; middle++) {
+            DeafBells y = new DeafBells();
+            for (int a = 0; a < 10; a++) {
+                y.stranger(middle, a);
+            }
+            Check.due("the middle of a star", y.heard(0, 2), 1 << middle);
         }
-        Check.due("the middle of a star", y.heard(0, 2), 512);
     }
 
     private static void feedsOrder() {
